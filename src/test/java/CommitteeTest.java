@@ -32,7 +32,7 @@ public final class CommitteeTest {
     private static void typing() {
         LifeList x = new LifeList();
         Checks.due("n 0", x.type('p', 0), LifeList.BAD);
-        Checks.due("n 9", x.type('p', 9), LifeList.BAD);
+        Checks.due("n 9", x.type(0x7070707070707070L, 9), LifeList.BAD);
         Checks.due("n -1", x.type('p', -1), LifeList.BAD);
         Checks.due("byte 31", x.type(31, 1), LifeList.BAD);
         Checks.due("byte 127", x.type(127, 1), LifeList.BAD);
@@ -86,13 +86,13 @@ public final class CommitteeTest {
             "p12,2/3", "p1 2,2/3", "p3,10/9", "p3,1/10", "p3,0/1", "p3,1/0", "p3,3/2", "p3, 3 / 2", "p3 ,2/3 3",
             "p-3,2/3", "p3.2/3", "p3,2:3", "p99999999999999999999,1/1", "p4294967297,1/1",
             "p1,1/1;p1,1/1;p1,1/1;p1,1/1;", "p1,1/1;p1,1/1;p1,1/1;p1,1/1 ;p1,1/1", "p1,1/1;p1,1/1;p1,1/1;p1,1/1p",
-            "q0,9/1"};
+            "q0,9/1", "3,2/3", ";p3,2/3", "p3,2/3;3,2/3", "pp3,2/3"};
         int[] places = {0, 3, 0, 2, 0, 1, 2, 1, 2, 2, 3, 4, 5,
             7, 8, 7, 6, 7, 6, 1, 1,
             1, 3, 3, 5, 3, 5, 5, 8, 8,
             1, 2, 4, 1, 1,
             27, 28, 27,
-            0};
+            0, 0, 0, 7, 1};
         LifeList x = new LifeList();
         rulesDue(x, "p4,1/2", 1, 4, 1, 2, 4, 1, 2, 4, 1, 2, 4, 1, 2);
         for (int i = 0; i < texts.length; i++) {
@@ -208,6 +208,7 @@ public final class CommitteeTest {
         Checks.due("in between", x.state(0, 499, 5), 1);
         Checks.due("all", x.state(0, 9999, 5), 2);
         Checks.due("no votes", x.state(0, 9999, 0), 0);
+        Checks.due("day 0", x.state(0, 0, 5), 0);
         Checks.due("another work", x.state(1, 9999, 5), 0);
         Checks.due("n -1", x.state(0, 0, -1), LifeList.BAD);
         Checks.due("n 6", x.state(0, 0, 6), LifeList.BAD);

@@ -6,6 +6,7 @@ public final class EditionsTest {
         struckOnesKeepTheirs();
         byClues();
         lettersRunOut();
+        greatestNumber();
         nineEditions();
         counts();
         Checks.end();
@@ -121,6 +122,27 @@ public final class EditionsTest {
         Checks.due("beyond", x.number(27), LifeList.NONE);
         Checks.due("nor later", x.edition(), 0);
         Checks.due("three editions", x.count(5), 3);
+    }
+
+    private static void greatestNumber() {
+        LifeList x = new LifeList();
+        for (int i = 0; i < 40; i++) {
+            Checks.painting(x);
+            if (i < 39) {
+                in(x, i);
+            }
+        }
+        Checks.due("39", x.edition(), 39);
+        in(x, 39);
+        Checks.due("one", x.edition(), 1);
+        Checks.due("39a", x.number(39), 3901);
+        LifeList y = new LifeList();
+        for (int i = 0; i < 40; i++) {
+            Checks.painting(y);
+            in(y, i);
+        }
+        Checks.due("40", y.edition(), 40);
+        Checks.due("40", y.number(39), 4000);
     }
 
     private static void nineEditions() {

@@ -13,10 +13,12 @@ public final class MentionsTest {
         yearsAndStates();
         words();
         ownersTold();
+        seenAtOnce();
         rivalsAndLost();
         joinedFirst();
         sureOnes();
         eightOfAnEvent();
+        manyWorks();
         counted();
         fullOfMentions();
         Checks.end();
@@ -90,6 +92,12 @@ public final class MentionsTest {
         y.work(0, 4990, 4990, 1, 1850, 1900);
         Checks.due("197 inches are too much", y.score(sized(y, SALE, 197, 197, INCHES, false), 0), 0);
         Checks.due("196 inches are less", y.score(sized(y, SALE, 196, 196, INCHES, false), 0), 7);
+        // 12 inches begin at 2921 tenths, 14 at 3429.
+        LifeList z = new LifeList();
+        z.work(0, 292, 343, 1, 1850, 1900);
+        Checks.due("a tenth too little", z.score(sized(z, SALE, 12, 14, INCHES, false), 0), 0);
+        z.work(0, 293, 343, 1, 1850, 1900);
+        Checks.due("a tenth more than needed", z.score(sized(z, SALE, 12, 14, INCHES, false), 1), 7);
     }
 
     private static void frames() {
@@ -104,6 +112,11 @@ public final class MentionsTest {
         // These would take a frame of 52.5 or 48.5 millimetres.
         Checks.due("no half millimetres", x.score(sized(x, SALE, 400, 310, MILLIMETRES, true), 0), 0);
         Checks.due("no half millimetres", x.score(sized(x, SALE, 402, 292, MILLIMETRES, true), 0), 0);
+        // 22 inches stand for 5461 to 5715 tenths: the height takes a frame of 21, the width one of 20 at most.
+        x.work(0, 506, 531, 1, 1850, 1900);
+        Checks.due("no frame for both", x.score(sized(x, SALE, 22, 22, INCHES, true), 1), 0);
+        x.work(0, 507, 531, 1, 1850, 1900);
+        Checks.due("20 for both", x.score(sized(x, SALE, 22, 22, INCHES, true), 2), 7);
         Checks.due("in inches", x.score(sized(x, LETTER, 15, 11, INCHES, true), 0), 7);
         Checks.due("in inches, no frame", x.score(sized(x, LETTER, 12, 8, INCHES, true), 0), 0);
     }
@@ -184,6 +197,43 @@ public final class MentionsTest {
         x.unhold();
         x.holding(0, 6, 1900, 1951, 1960, 1960);
         Checks.due("another who only may", x.score(word, 0), 4);
+        int zero = x.mention(SALE, 0, 1955, 0, 0, 0, false, 1, 0);
+        Checks.due("owner 0 is told too", x.score(zero, 0), 0);
+    }
+
+    /** What the last call changed counts in the next one, whichever it is. */
+    private static void seenAtOnce() {
+        for (int call = 0; call < 7; call++) {
+            LifeList x = new LifeList();
+            x.work(0, 300, 200, 1, 1850, 1900);
+            worded(x, SALE, 15, 1);
+            int due = call == 1 ? 0 : call == 4 || call == 6 ? 4 : 1;
+            Checks.due("there, " + call, asked(x, call), call == 1 ? 0 : due);
+            x.vote(0, 0, 7, 0, true);
+            int gone = call == 1 || call == 2 ? LifeList.NONE : 0;
+            Checks.due("struck, " + call, asked(x, call), gone);
+            x.vote(0, 0, 7, 0, false);
+            Checks.due("there again, " + call, asked(x, call), due);
+        }
+    }
+
+    private static int asked(LifeList x, int call) {
+        switch (call) {
+            case 0:
+                return x.rivals(0);
+            case 1:
+                return x.joined(0);
+            case 2:
+                return x.sure(0);
+            case 3:
+                return x.mentions(1);
+            case 4:
+                return x.sum(15);
+            case 5:
+                return x.counted(SALE, SHOW, 0);
+            default:
+                return x.score(0, 0);
+        }
     }
 
     private static void rivalsAndLost() {
@@ -259,6 +309,30 @@ public final class MentionsTest {
         Checks.due("sure", x.mentions(2), 8);
     }
 
+    private static void manyWorks() {
+        LifeList x = new LifeList();
+        for (int i = 0; i < 40; i++) {
+            x.work(0, 300, 200, i < 32 ? 1 : 1 | 2 << i - 32, 1850, 1900);
+        }
+        for (int i = 0; i < 8; i++) {
+            worded(x, SALE, 0, 1 | 2 << i);
+        }
+        for (int i = 0; i < 8; i++) {
+            Checks.due("joined " + i, x.joined(i), 32 + i);
+            Checks.due("sure " + i, x.sure(i), 1);
+        }
+        for (int i = 0; i < 8; i++) {
+            worded(x, LETTER, 1, 1);
+        }
+        for (int i = 0; i < 8; i++) {
+            Checks.due("joined " + i, x.joined(8 + i), i);
+            Checks.due("not sure " + i, x.sure(8 + i), 0);
+        }
+        Checks.due("sum", x.sum(0), 64);
+        Checks.due("sum", x.sum(1), 32);
+        Checks.due("sure ones", x.mentions(2), 8);
+    }
+
     private static void counted() {
         LifeList x = new LifeList();
         for (int i = 0; i < 6; i++) {
@@ -281,6 +355,7 @@ public final class MentionsTest {
         Checks.due("like kinds", x.counted(1, 1, 0), LifeList.BAD);
         Checks.due("kind -1", x.counted(-1, 1, 0), LifeList.BAD);
         Checks.due("kind 3", x.counted(0, 3, 0), LifeList.BAD);
+        Checks.due("kind 3", x.counted(3, 0, 0), LifeList.BAD);
         Checks.due("what -1", x.counted(0, 1, -1), LifeList.BAD);
         Checks.due("what 5", x.counted(0, 1, 5), LifeList.BAD);
         worded(x, SHOW, 2, 1 << 5);

@@ -8,6 +8,7 @@ public final class SheetsTest {
         lanes();
         refusedHoldings();
         holdingsOfEachLane();
+        itemsInTheirPlaces();
         fullOfHoldings();
         Checks.end();
     }
@@ -121,6 +122,32 @@ public final class SheetsTest {
             x.sheet(lane, lane, 60);
             Checks.due("a new row is of zeros", x.holdings(lane, lane, 3, 1), LifeList.NOT);
         }
+    }
+
+    private static void itemsInTheirPlaces() {
+        LifeList x = new LifeList();
+        Checks.painting(x);
+        x.sheet(0, INTS, 6);
+        lay(x, 0, INTS, 0, 0, 5, 1850, 1860, 1870, 1880);
+        Checks.due("one", x.holdings(0, INTS, 0, 1), 1);
+        Checks.due("ahead of a", x.may(0, 1849), 0);
+        Checks.due("a", x.may(0, 1850), 1 << 5);
+        Checks.due("ahead of b", x.owner(0, 1859), LifeList.NONE);
+        Checks.due("b", x.owner(0, 1860), 5);
+        Checks.due("c", x.owner(0, 1870), 5);
+        Checks.due("behind c", x.owner(0, 1871), LifeList.NONE);
+        Checks.due("d", x.may(0, 1880), 1 << 5);
+        Checks.due("behind d", x.may(0, 1881), 0);
+        int[][] wrong = {{1850, 1849, 1870, 1880}, {1850, 1860, 1849, 1880}, {1850, 1881, 1870, 1880},
+            {1850, 1860, 1881, 1880}, {1799, 1860, 1870, 1880}, {1850, 1860, 1870, 2000}};
+        for (int[] years : wrong) {
+            lay(x, 0, INTS, 2, years);
+            Checks.due("not as told", x.holdings(0, INTS, 0, 1), LifeList.NOT);
+        }
+        x.sheet(0, INTS, 6);
+        lay(x, 0, INTS, 2, 1900, 1900, 1900, 1900);
+        Checks.due("a new row is of zeros", x.holdings(0, INTS, 0, 1), 2);
+        Checks.due("owner 0 of work 0", x.owner(0, 1900), 0);
     }
 
     private static void fullOfHoldings() {

@@ -7,6 +7,7 @@ public final class YearsTest {
         outOfUse();
         struckWorks();
         asidesByNumbers();
+        asidesFarBehind();
         moreThanThree();
         Checks.end();
     }
@@ -126,6 +127,25 @@ public final class YearsTest {
         Checks.due("asking puts nothing aside", x.quarrel(), 1);
     }
 
+    /** One to three of eight clues, each set of three in turn. */
+    private static void asidesFarBehind() {
+        for (int i = 0; i < 8; i++) {
+            for (int j = i; j < 8; j++) {
+                for (int k = j; k < 8; k++) {
+                    LifeList x = withWorks(2, 1850, 1860);
+                    for (int clue = 0; clue < 8; clue++) {
+                        x.clue(0, 1, clue == i || clue == j || clue == k ? 11 : 10);
+                    }
+                    int[] due = java.util.stream.IntStream.of(i, j, k).distinct().toArray();
+                    Checks.due("asides " + i + j + k, x.asides(), due.length);
+                    for (int at = 0; at < due.length; at++) {
+                        Checks.due("aside " + i + j + k, x.aside(at), due[at]);
+                    }
+                }
+            }
+        }
+    }
+
     private static void moreThanThree() {
         LifeList x = withWorks(2, 1850, 1860);
         for (int i = 0; i < 4; i++) {
@@ -136,7 +156,9 @@ public final class YearsTest {
             Checks.due("none to tell", x.aside(i), LifeList.NONE);
         }
         Checks.due("BAD ahead of NONE", x.aside(-1), LifeList.BAD);
+        Checks.due("there is never a fourth", x.aside(3), LifeList.BAD);
         x.use(2, false);
+        Checks.due("seen at once", x.aside(2), 3);
         Checks.due("three", x.asides(), 3);
         Checks.due("0", x.aside(0), 0);
         Checks.due("1", x.aside(1), 1);
