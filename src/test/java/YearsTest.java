@@ -8,6 +8,7 @@ public final class YearsTest {
         struckWorks();
         asidesByNumbers();
         asidesFarBehind();
+        amongTwenty();
         moreThanThree();
         Checks.end();
     }
@@ -142,6 +143,20 @@ public final class YearsTest {
                         Checks.due("aside " + i + j + k, x.aside(at), due[at]);
                     }
                 }
+            }
+        }
+    }
+
+    private static void amongTwenty() {
+        for (int wrong = 1; wrong <= 5; wrong++) {
+            LifeList x = withWorks(2, 1850, 1860);
+            for (int clue = 0; clue < 20; clue++) {
+                x.clue(0, 1, clue < 20 - wrong ? 10 : 11);
+            }
+            Checks.due("the last " + wrong, x.asides(), wrong > 3 ? LifeList.NONE : wrong);
+            for (int i = 0; i < 3; i++) {
+                int due = wrong > 3 ? LifeList.NONE : i < wrong ? 20 - wrong + i : LifeList.BAD;
+                Checks.due("of the last " + wrong, x.aside(i), due);
             }
         }
     }
