@@ -320,6 +320,9 @@ public final class OracleTest {
         }
 
         int answer(int[] a) {
+            boolean isAsking = a[0] > 2 && a[0] != 22 && a[0] != 23 && a[0] != 32;
+            changes += isAsking ? 0 : 1;
+            Arrays.fill(joinsKnown, null);
             switch (a[0]) {
                 case 0: case 1: case 2: return add(a);
                 case 3: return retitle(a[1], a[2], a[3]);
@@ -618,7 +621,17 @@ public final class OracleTest {
 
         private int joined(int mention) {
             int place = place(mention);
-            return place < 0 ? -4 : joins(first(mentions.get(mention)[2]))[place];
+            return place < 0 ? -4 : joinsOf(mentions.get(mention)[2])[place];
+        }
+
+        /** Kept for as long as one call is answered. */
+        private final int[][] joinsKnown = new int[16][];
+
+        private int[] joinsOf(int event) {
+            if (joinsKnown[event] == null) {
+                joinsKnown[event] = joins(first(event));
+            }
+            return joinsKnown[event];
         }
 
         private int sure(int mention) {
@@ -709,18 +722,15 @@ public final class OracleTest {
             return far;
         }
 
+        private int changes;
         private int[][] known;
-        private String knownOf = "";
+        private int knownOf = -1;
 
-        /** The distances with all clues are asked again and again: kept as long as nothing has changed. */
+        /** The distances with all clues are asked again and again: kept as long as nothing that they hang on has changed. */
         private int[][] all() {
-            StringBuilder now = new StringBuilder().append(works.size()).append(' ').append(votes.size());
-            for (int[] c : clues) {
-                now.append(Arrays.toString(c));
-            }
-            if (!now.toString().equals(knownOf)) {
+            if (knownOf != changes) {
                 known = distances(0);
-                knownOf = now.toString();
+                knownOf = changes;
             }
             return known;
         }
@@ -739,8 +749,19 @@ public final class OracleTest {
             return which == 0 ? all()[works.size()][work] : -all()[work][works.size()];
         }
 
-        /** As bits; of as few the first by numbers. */
+        private int asidesKnown;
+        private int asidesOf = -1;
+
         private int asides() {
+            if (asidesOf != changes) {
+                asidesKnown = tryAsides();
+                asidesOf = changes;
+            }
+            return asidesKnown;
+        }
+
+        /** As bits; of as few the first by numbers. */
+        private int tryAsides() {
             if (!quarrels(0)) {
                 return 0;
             }
@@ -958,10 +979,11 @@ public final class OracleTest {
                 if (numbers[order.get(i)] != 0) {
                     continue;
                 }
-                int base = 0;
-                for (int j = i - 1; j >= 0 && base == 0; j--) {
-                    base = numbers[order.get(j)] / 100;
+                int nearest = i - 1;
+                while (nearest >= 0 && numbers[order.get(nearest)] == 0) {
+                    nearest--;
                 }
+                int base = nearest < 0 ? 0 : numbers[order.get(nearest)] / 100;
                 if (editions == 0) {
                     numbers[order.get(i)] = 100 * (i + 1);
                     got++;
