@@ -1,6 +1,6 @@
 /**
- * All that later calls tell of an object, in parts. An object is good for 512 calls: each part asks a new
- * one, and few enough calls that the object may be full of everything.
+ * What later calls tell of an object, in parts: each kind of call, with some of the numbers that it takes. An
+ * object is good for 512 calls: each part asks a new one, and few enough calls that it may be full of everything.
  */
 final class Probe {
     static final int PARTS = 13;
