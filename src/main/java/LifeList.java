@@ -235,7 +235,7 @@ public final class LifeList {
         return joins.workFor(mention);
     }
 
-    /** Whether a mention's work is the only one that does. */
+    /** Whether an event's scores would be less if a mention were not joined to its work. */
     public int sure(int mention) {
         if (!sources.has(mention)) {
             return BAD;

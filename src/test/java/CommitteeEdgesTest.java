@@ -235,6 +235,11 @@ public final class CommitteeEdgesTest {
         faultDue("p,1/1", 1);
         faultDue("p1,/1", 3);
         faultDue("p1,1/;", 5);
+        clausesDue("p03,1/1", 1);
+        clausesDue("p1,0002/00000000000000000000000000000000000000003", 1);
+        faultDue("p00,1/1", 1);
+        faultDue("p09,1/1", 1);
+        faultDue("p1,02/01", 6);
     }
 
     private static void promise32Ends() {
